@@ -8,6 +8,9 @@ public final class HistoryTest {
         promise39Undo();
         queriesAndErrorsRecordNothing();
         everythingComesBack();
+        closedMotionsComeBack();
+        offersGoOnAfterUndo();
+        motionsGoOnAfterUndo();
         c.end();
     }
 
@@ -159,5 +162,101 @@ public final class HistoryTest {
             text.append("\nq ").append(x.motionState(o)).append(' ').append(x.votesFor(o));
         }
         return text.toString();
+    }
+
+    private static void closedMotionsComeBack() {
+        DairyShares x = Check.register(2, 100, 20);
+        x.offer(0, 1, 50, 100);
+        x.passDays(9);
+        long account = x.account(0);
+        int room = x.room(1);
+        int treasury = x.treasury();
+        int[] values = {500, 50, 7, 10, 30};
+        for (int kind = 0; kind < 5; kind++) {
+            int kept = Check.pass(x, kind, values[kind], 2);
+            c.due("39 kind " + kind + " passes", kept, 1);
+            c.due("39 closing is recorded", x.undo(), 3);
+            c.due("39 motion open again", x.motionState(kind), 0);
+            c.due("39 par", x.parValue(), 100);
+            c.due("39 cap", x.room(1), room);
+            c.due("39 treasury", x.treasury(), treasury);
+            c.due("39 account", x.account(0), account);
+        }
+        x.offer(0, 1, 1, 100);
+        c.due("39 stage length", x.daysLeft(1), 3);
+        x.undo();
+        c.due("33 a failed closing is recorded, too", x.setVoting(0, 100), 0);
+        x.propose(0, 5);
+        c.due("33 fails", x.closeMotion(5), 0);
+        c.due("39 undo it", x.undo(), 3);
+        c.due("39 open", x.motionState(5), 0);
+    }
+
+    /** What an undo brought back must serve the days to come, not only the queries. */
+    private static void offersGoOnAfterUndo() {
+        DairyShares x = Check.register(4, 10, 100, 100, 10);
+        x.setMilk(3, 30000);
+        x.offer(1, 0, 30, 300);
+        x.offer(2, 3, 30, 400);
+        x.claim(0, 3, 4);
+        x.claim(1, 3, 5);
+        x.setTreasuryLimit(20);
+        Check.pass(x, 2, 5, 4);
+        x.setBooks(44000, 0);
+        x.valuate();
+        x.passDays(2);
+        x.undo();
+        c.due("39 price", x.price(), 120);
+        x.passDays(3);
+        c.due("39 first offer", x.sold(0, 0), 4);
+        c.due("39 second offer", x.sold(1, 0), 5);
+        c.due("39 stage length", x.daysLeft(0), 5);
+        c.due("39 paid the price", x.account(3), -1000 - 9 * 120);
+        x.passDays(9);
+        x.undo();
+        c.due("39 closed then", x.passDays(10), 2);
+        c.due("39 sold in stage 0", x.sold(1, 0), 5);
+        c.due("39 treasury", x.treasury(), 20);
+        c.due("39 to the first buyer", x.shares(0), 16);
+        c.due("39 at what it offered", x.account(0), -1000 - 6 * 300);
+        c.due("39 to the second buyer", x.shares(3), 44);
+        c.due("39 at what it offered", x.account(3), -1000 - 9 * 120 - 25 * 400);
+        c.due("39 the first seller", x.account(1), -10000 + 24 * 120 + 6 * 300);
+        c.due("39 the second seller", x.account(2), -10000 + 5 * 120 + 25 * 400);
+    }
+
+    private static void motionsGoOnAfterUndo() {
+        DairyShares x = Check.register(4, 10, 10, 10, 10);
+        c.due("39 cap", Check.pass(x, 1, 50, 4), 1);
+        x.setVoting(0, 75);
+        x.propose(0, 200);
+        x.propose(4, 50);
+        for (int m = 0; m < 3; m++) {
+            x.vote(1, m, 1);
+            x.vote(2, m, m == 0 ? 0 : 1);
+        }
+        x.join();
+        x.undo();
+        c.due("39 the motion before is closed", x.closeMotion(0), Check.ILLEGAL);
+        c.due("39 the cap stays", x.room(0), 10);
+        c.due("39 votes", x.votesFor(1), 3);
+        c.due("39 votes", x.votesFor(2), 2);
+        c.due("39 quorum 75 of 3 in 4", x.closeMotion(1), 1);
+        c.due("39 its value", x.parValue(), 200);
+        c.due("39 the other's kind", x.closeMotion(2), 1);
+        c.due("39 its value", x.account(3), -1000 + 10 * 200 * 50 / 100);
+        x.undo();
+        x.undo();
+        x.setMilk(0, 0);
+        x.undo();
+        x.vote(1, 0, 0);
+        x.vote(1, 1, 0);
+        c.due("39 one of three", x.votesFor(1), 1);
+        c.due("39 fails now", x.closeMotion(1), 0);
+        DairyShares y = Check.register(4, 10, 10, 10, 10);
+        y.setVoting(0, 80);
+        y.join();
+        y.undo();
+        c.due("39 the quorum again", Check.pass(y, 0, 5, 3), 0);
     }
 }

@@ -7,6 +7,8 @@ public final class MotionsTest {
         promise31Propose();
         promise32Vote();
         promise33Quorum();
+        quorumAtFirst();
+        twelveMembersVote();
         promise33Effects();
         promise34Votes();
         promise35And36StateAndVotesFor();
@@ -112,6 +114,27 @@ public final class MotionsTest {
         c.due("33 " + run, x.closeMotion(0), due);
         c.due("35 " + run, x.motionState(0), due == 1 ? 1 : 2);
         c.due("33 done or not, " + run, x.parValue(), due == 1 ? 500 : 100);
+    }
+
+    private static void quorumAtFirst() {
+        c.due("33 half of four", Check.pass(Check.register(4, 1, 1, 1, 1), 0, 5, 2), 1);
+        c.due("33 a third", Check.pass(Check.register(3, 1, 1, 1), 0, 5, 1), 0);
+        c.due("33 5 of 11", Check.pass(Check.register(11, 1, 1, 1, 1, 1, 1, 1, 1, 1, 1, 1), 0, 5, 5), 0);
+        c.due("33 without shares none counts", Check.pass(Check.register(11, 1, 1), 0, 5, 1), 1);
+    }
+
+    private static void twelveMembersVote() {
+        DairyShares x = Check.register(12, 10, 1, 1, 1, 1, 1, 1, 1, 1, 1, 1, 12);
+        x.setVoting(1, 100);
+        x.propose(4, 100);
+        for (int m = 0; m < 12; m++) {
+            c.due("32 voters", x.vote(0, m, m == 0 || m == 11 ? 1 : 0), m + 1);
+        }
+        c.due("36 the first and the last", x.votesFor(0), 22);
+        c.due("33 all voted", x.closeMotion(0), 1);
+        c.due("33 the first gets it", x.account(0), 0);
+        c.due("33 the last gets it", x.account(11), 0);
+        c.due("13 the last counts", x.allShares(), 32);
     }
 
     private static void promise33Effects() {

@@ -11,6 +11,7 @@ public final class OffersTest {
         leftoversGoToTheGreatestRemainders();
         demandIsReadAtTheEnd();
         twoOffersInOrder();
+        twelveMembersClaim();
         promise23Cooperative();
         promise24To29Queries();
         c.end();
@@ -305,6 +306,39 @@ public final class OffersTest {
         c.due("23 treasury", x.treasury(), 15);
         c.due("23 goes on belonging", x.remaining(1), 15);
         c.due("23 shares(1)", x.shares(1), 35);
+    }
+
+    /** Seven shares among eleven: the first and the last number count, and the seller sits between. */
+    private static void twelveMembersClaim() {
+        DairyShares x = Check.register(12);
+        x.issue(5, 1000);
+        x.offer(5, 0, 1000, 100);
+        x.passDays(3);
+        int all = 0;
+        for (int m = 0; m < 12; m++) {
+            int count = m == 0 || m == 11 ? 160 : 68;
+            all += m == 5 ? 0 : count;
+            c.due("21 sum of claims", x.claim(0, m, count), m == 5 ? Check.ILLEGAL : all);
+        }
+        c.due("21 of the first", x.claimOf(0, 0), 160);
+        // 932 in all: they get their demands and 68 remain
+        c.due("23 open", x.passDays(3), 0);
+        c.due("23 the first", x.shares(0), 160);
+        c.due("23 the last", x.shares(11), 160);
+        c.due("26 remaining", x.remaining(0), 68);
+        c.due("29 of the first, in the next stage", x.claimOf(0, 0), 0);
+        c.due("29 of the last, in the next stage", x.claimOf(0, 11), 0);
+        DairyShares y = Check.register(12, 0, 0, 0, 0, 0, 1000);
+        y.offer(5, 0, 7, 100);
+        y.passDays(3);
+        for (int m = 0; m < 12; m++) {
+            y.claim(0, m, 3);
+        }
+        c.due("23 closed", y.passDays(3), 1);
+        // 7 * 3 / 33 = 0 with 21 left for each: the seven smaller numbers get one
+        for (int m = 0; m < 12; m++) {
+            c.due("23 one each", y.shares(m), m == 5 ? 993 : m < 8 ? 1 : 0);
+        }
     }
 
     private static void promise23Cooperative() {
