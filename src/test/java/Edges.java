@@ -73,6 +73,10 @@ final class Edges {
     void outside(Twins.Make make, String call, CallWith f, int least, int greatest) {
         for (int n : new int[] {Integer.MIN_VALUE, least - 1, greatest + 1, Integer.MAX_VALUE}) {
             keeps(make, call + " with " + n, x -> f.on(x, n), INVALID);
+            // a number that is taken one step outside may lead to no end at the end of int
+            if (f.on(make.it(), n) != INVALID) {
+                return;
+            }
         }
     }
 

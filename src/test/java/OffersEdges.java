@@ -356,6 +356,19 @@ final class OffersEdges {
                 e.keeps(market(a[0], a[1]), call, x -> x.offer(0, 1, a[2], 100), Edges.ILLEGAL);
             }
         }
+        for (int first : new int[] {7, 8}) {
+            Twins.Make offered = () -> {
+                DairyShares x = market(10, 0).it();
+                x.offer(0, 1, first, 100);
+                return x;
+            };
+            e.does(offered, "just what is free beside " + first, x -> x.offer(0, 2, 10 - first, 100), 1);
+            e.keeps(offered, "one more beside " + first, x -> x.offer(0, 2, 11 - first, 100), Edges.ILLEGAL);
+            DairyShares again = offered.it();
+            again.withdraw(0);
+            e.due("one more than all after a withdrawal", again.offer(0, 2, 11, 100), Edges.ILLEGAL);
+            e.due("all after a withdrawal", again.offer(0, 2, 10, 100), 1);
+        }
         offeredBelowThePar(e);
         e.sentence("Promise 20", "CAPACITY_EXCEEDED if there are 20 offers.");
         e.does(offers(19), "with 19", x -> x.offer(0, 1, 1, 100), 19);

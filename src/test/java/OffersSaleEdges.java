@@ -244,6 +244,12 @@ final class OffersSaleEdges {
         e.due("dear", dear.valuate(), 64000);
         dear.passDays(3);
         e.due("16 millions", dear.account(2), -16000000);
+        DairyShares dearest = dearest(500);
+        dearest.passDays(3);
+        dearest.claim(0, 2, 250);
+        dearest.passDays(3);
+        e.due("beyond an int, paid", dearest.account(2), -250 * 64000000L);
+        e.due("beyond an int, got", dearest.account(0), -100 - (999 - 250) * 64000000L);
         DairyShares two = OffersEdges.inStage(1, 3);
         two.claim(0, 2, 3);
         two.claim(0, 3, 3);
@@ -279,6 +285,20 @@ final class OffersSaleEdges {
             e.due("the seller gets the price", x.account(0), -100000 + 240L * row[2] + 100L * bought);
             e.due("the seller's shares", x.shares(0), 1000 - row[2] - bought);
         }
+        DairyShares dearest = dearest(50);
+        dearest.passDays(9);
+        e.due("beyond an int, got", dearest.account(0), -100 - (999 - 50) * 64000000L);
+    }
+
+    /** The greatest price, found when there was one share; then there are 1000, so many of them offered. */
+    private static DairyShares dearest(int count) {
+        DairyShares x = Check.register(4, 1);
+        x.setBooks(100000000, 0);
+        x.addSurplus(1000000);
+        x.valuate();
+        x.issue(0, 999);
+        x.offer(0, 1, count, 100000);
+        return x;
     }
 
     /** The treasury has 50 already when an offer of ten comes to the end of the stage 2. */
