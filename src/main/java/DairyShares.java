@@ -407,7 +407,7 @@ public final class DairyShares {
         }
     }
 
-    /** Rounds down, also below 0. No divisor is below 1; the test keeps that visible here. */
+    /** Rounds down, also below 0. Of the divisors only the number of surpluses can be 0: their mean is 0 then. */
     private static int quotient(int number, int divisor) {
         return divisor > 0 ? Math.floorDiv(number, divisor) : 0;
     }
